@@ -100,7 +100,7 @@ public final class ArrayClaims {
         if (n < 0 || n > made.count) {
             return false;
         }
-        made.count = n;
+        made.cutTo(n);
         return true;
     }
 
@@ -134,8 +134,12 @@ public final class ArrayClaims {
     public int same(int t, int u)
             throws IndexOutOfBoundsException, IllegalArgumentException, IllegalStateException {
         checkPair(t, u);
-        boolean canBeSame = isPossibleWith(Literal.of(t, u, true));
-        boolean canDiffer = isPossibleWith(Literal.of(t, u, false));
+        askClaims(made.count, NONE);
+        asked.addSingle(Literal.of(t, u, true));
+        boolean canBeSame = isPossible();
+        asked.cutTo(made.count);
+        asked.addSingle(Literal.of(t, u, false));
+        boolean canDiffer = isPossible();
         if (!canBeSame && !canDiffer) {
             throw new IllegalStateException();
         }
@@ -188,7 +192,7 @@ public final class ArrayClaims {
     }
 
     private void askClaims(int upTo, int leftOut) {
-        asked.count = 0;
+        asked.cutTo(0);
         for (int claim = 0; claim < upTo; claim++) {
             if (claim != leftOut) {
                 asked.addFrom(made, claim);
@@ -198,12 +202,6 @@ public final class ArrayClaims {
 
     private boolean isPossible() {
         return search.finds(known, asked, 1, INDEX_NAMES);
-    }
-
-    private boolean isPossibleWith(int literal) {
-        askClaims(made.count, NONE);
-        asked.addSingle(literal);
-        return isPossible();
     }
 
     /** The terms, each with what it was made of: names have NONE there, and a select has no element. */
@@ -315,6 +313,12 @@ public final class ArrayClaims {
             literals[count * MOST_LITERALS] = literal;
             sizes[count] = 1;
             count++;
+        }
+
+        void cutTo(int size) {
+            if (size >= 0 && size < count) {
+                count = size;
+            }
         }
 
         int sizeOf(int claim) {
@@ -453,38 +457,31 @@ public final class ArrayClaims {
         }
 
         private int rightness(TermTable known, int literal) {
-            int alike = likeness(known, Literal.left(literal), Literal.right(literal));
+            int t = Literal.left(literal);
+            int u = Literal.right(literal);
+            int alike = ALWAYS;
+            for (int place = 0; place < width(known.sorts[t]) && alike != NEVER; place++) {
+                int here = partLikeness(known.sorts[t], parts[t * PLACES + place], parts[u * PLACES + place]);
+                if (here != ALWAYS) {
+                    alike = here;
+                }
+            }
             if (alike == MAYBE || Literal.saysSame(literal)) {
                 return alike;
             }
             return alike == ALWAYS ? NEVER : ALWAYS;
         }
 
-        private int likeness(TermTable known, int t, int u) {
-            int sort = known.sortOf(t);
-            if (sort == INDEX) {
-                return parts[t * PLACES] == parts[u * PLACES] ? ALWAYS : NEVER;
-            }
-            int answer = ALWAYS;
-            for (int place = 0; place < width(sort); place++) {
-                int alike = spotLikeness(parts[t * PLACES + place], parts[u * PLACES + place]);
-                if (alike == NEVER) {
-                    return NEVER;
-                }
-                if (alike == MAYBE) {
-                    answer = MAYBE;
-                }
-            }
-            return answer;
-        }
-
         private static int width(int sort) {
             return sort == ARRAY ? PLACES : 1;
         }
 
-        private int spotLikeness(int x, int y) {
+        private int partLikeness(int sort, int x, int y) {
             if (x == y) {
                 return ALWAYS;
+            }
+            if (sort == INDEX) {
+                return NEVER;
             }
             if (chosen[x] == NONE || chosen[y] == NONE) {
                 return MAYBE;
@@ -504,10 +501,11 @@ public final class ArrayClaims {
         }
 
         private int openSpotOf(TermTable known, int t, int u) {
-            for (int place = 0; place < width(known.sortOf(t)); place++) {
+            int sort = known.sorts[t];
+            for (int place = 0; place < width(sort); place++) {
                 int x = parts[t * PLACES + place];
                 int y = parts[u * PLACES + place];
-                if (spotLikeness(x, y) == MAYBE) {
+                if (partLikeness(sort, x, y) == MAYBE) {
                     return chosen[x] == NONE ? x : y;
                 }
             }

@@ -2,10 +2,14 @@ import java.util.ArrayList;
 import java.util.List;
 import java.util.Random;
 
-/** Promises 12 to 17 in many states, each answer against a census of all readings. */
+/**
+ * Promises 12 to 17 in many states, each answer against a census of all readings. Each object goes through
+ * several states, some of its claims staying, so that nothing of an earlier question or claim is left over.
+ */
 public final class RandomStatesTest {
-    private static final int STATES = 600;
-    private static final int STATES_IN_FULL = 12;
+    private static final int OBJECTS = 240;
+    private static final int OBJECTS_IN_FULL = 4;
+    private static final int STATES_OF_EACH = 3;
 
     private final Checks checks = new Checks();
     private final Random random;
@@ -32,7 +36,7 @@ public final class RandomStatesTest {
     }
 
     private void makeTerms() {
-        int most = 7 + random.nextInt(18);
+        int most = Math.min(24, terms.size() + random.nextInt(18));
         for (int tries = 0; tries < 200 && terms.size() < most; tries++) {
             boolean isStore = random.nextInt(5) < 3;
             int a = anyOf(2);
@@ -57,14 +61,21 @@ public final class RandomStatesTest {
     }
 
     private void makeClaims() {
-        int most = random.nextInt(9);
+        int most = claims.size() + random.nextInt(9 - claims.size());
         int sameOfTen = 2 + random.nextInt(7);
         int longest = 1 + random.nextInt(3);
-        for (int k = 0; k < most; k++) {
+        x.clear();
+        while (claims.size() < most) {
             claims.add(draftLiterals(1 + random.nextInt(longest), sameOfTen));
             x.claim();
         }
         draft = draftLiterals(1 + random.nextInt(3), sameOfTen);
+    }
+
+    private void dropClaims() {
+        int stay = random.nextInt(claims.size() + 1);
+        checks.due(told + "keep(" + stay + ")", true, () -> x.keep(stay));
+        claims.subList(stay, claims.size()).clear();
     }
 
     private void compareAll(boolean inFull) {
@@ -117,22 +128,32 @@ public final class RandomStatesTest {
         }
     }
 
+    private void compareCounts() {
+        checks.due(told + "terms()", terms.size(), x::terms);
+        checks.due(told + "draft()", draft.length, x::draft);
+        checks.due(told + "claims()", claims.size(), x::claims);
+    }
+
     private Checks run(String name, boolean inFull) {
-        told = name + ": ";
-        makeTerms();
-        makeClaims();
-        compareAll(inFull);
+        for (int state = 0; state < STATES_OF_EACH; state++) {
+            told = name + ", state " + state + ": ";
+            dropClaims();
+            makeTerms();
+            makeClaims();
+            compareAll(inFull);
+            compareCounts();
+        }
         return checks;
     }
 
     public static void main(String[] args) {
         Checks whole = new Checks();
-        for (int seed = 0; seed < STATES + STATES_IN_FULL; seed++) {
-            boolean inFull = seed >= STATES;
-            Checks one = new RandomStatesTest(seed).run("state " + seed, inFull);
-            whole.addAll(one);
+        int objects = OBJECTS + OBJECTS_IN_FULL;
+        for (int seed = 0; seed < objects; seed++) {
+            boolean inFull = seed >= OBJECTS;
+            whole.addAll(new RandomStatesTest(seed).run("object " + seed, inFull));
         }
-        System.out.println("claims can hold in " + possible + " of " + (STATES + STATES_IN_FULL) + " states");
+        System.out.println("claims can hold in " + possible + " of " + objects * STATES_OF_EACH + " states");
         whole.end();
     }
 }
