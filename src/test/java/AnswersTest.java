@@ -142,6 +142,23 @@ public final class AnswersTest {
         c.due("reads of one array with different elements", NEVER, () -> x.same(1, 2));
     }
 
+    /** Ten pairs of five elements: seven are claimed to be different, and the draft denies it of the other three. */
+    private static void fiveElementsCanAllBeDifferent(Checks c) {
+        ArrayClaims x = new ArrayClaims();
+        int[] five = {3, 4, x.select(5, 0), x.select(5, 1), x.select(5, 2)};
+        for (int k = 0; k < 5; k++) {
+            for (int m = 0; m < k; m++) {
+                x.literal(five[k], five[m], x.claims() == 7);
+                if (x.claims() < 7) {
+                    x.claim();
+                }
+            }
+        }
+        c.due("seven claims", 7, x::claims);
+        c.due("three literals in the draft", 3, x::draft);
+        c.due("that two of the five are the same does not follow", false, x::follows);
+    }
+
     private static void whatFollows(Checks c) {
         ArrayClaims x = new ArrayClaims();
         int zero = x.select(5, 0);
@@ -203,6 +220,7 @@ public final class AnswersTest {
         arraysAreKnownByTheirElements(c);
         arraysCanDifferElsewhere(c);
         elementsAreManyEnough(c);
+        fiveElementsCanAllBeDifferent(c);
         whatFollows(c);
         theDraftIsNoClaim(c);
         howManyIndices(c);
