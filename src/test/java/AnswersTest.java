@@ -1,17 +1,9 @@
 /** Promises 12 to 17: can, first, without, same, follows, apart. */
 public final class AnswersTest {
-    private static final Class<IndexOutOfBoundsException> OUT = IndexOutOfBoundsException.class;
-    private static final Class<IllegalArgumentException> ARGUMENT = IllegalArgumentException.class;
-    private static final Class<IllegalStateException> STATE = IllegalStateException.class;
+    private static final String OUT = Answer.OUT;
+    private static final String ARGUMENT = Answer.ARGUMENT;
+    private static final String STATE = Answer.STATE;
     private static final int NEVER = ArrayClaims.NEVER, ALWAYS = ArrayClaims.ALWAYS, MAYBE = ArrayClaims.MAYBE;
-
-    /** One claim of literals that are told as t, u, and 1 for same or 0 for not. */
-    private static void claim(ArrayClaims x, int... parts) {
-        for (int k = 0; k + 2 < parts.length; k += 3) {
-            x.literal(parts[k], parts[k + 1], parts[k + 2] == 1);
-        }
-        x.claim();
-    }
 
     private static void withoutClaims(Checks c) {
         ArrayClaims x = new ArrayClaims();
@@ -35,13 +27,13 @@ public final class AnswersTest {
 
     private static void firstAndWithout(Checks c) {
         ArrayClaims x = new ArrayClaims();
-        claim(x, 3, 4, 1);
-        claim(x, 0, 1, 1, 3, 4, 0);
-        claim(x, 0, 2, 1, 1, 2, 0);
+        Make.claim(x, 3, 4, 1);
+        Make.claim(x, 0, 1, 1, 3, 4, 0);
+        Make.claim(x, 0, 2, 1, 1, 2, 0);
         c.due("can() of three", true, x::can);
         c.due("first() of three", -1, x::first);
-        claim(x, 0, 1, 0);
-        claim(x, 1, 1, 1);
+        Make.claim(x, 0, 1, 0);
+        Make.claim(x, 1, 1, 1);
         c.due("can() of five", false, x::can);
         c.due("first() of five", 3, x::first);
         c.due("without(0)", true, () -> x.without(0));
@@ -57,7 +49,7 @@ public final class AnswersTest {
 
     private static void aClaimThatCanNeverHold(Checks c) {
         ArrayClaims x = new ArrayClaims();
-        claim(x, 5, 5, 0, 0, 0, 0, 3, 3, 0);
+        Make.claim(x, 5, 5, 0, 0, 0, 0, 3, 3, 0);
         c.due("can()", false, x::can);
         c.due("first()", 0, x::first);
         c.due("without(0)", true, () -> x.without(0));
@@ -90,10 +82,10 @@ public final class AnswersTest {
         int before = x.select(5, 1);
         c.due("what was written", ALWAYS, () -> x.same(there, 3));
         c.due("beside it, perhaps", MAYBE, () -> x.same(other, before));
-        claim(x, 0, 1, 0);
+        Make.claim(x, 0, 1, 0);
         c.due("beside it", ALWAYS, () -> x.same(other, before));
         x.keep(0);
-        claim(x, other, before, 0);
+        Make.claim(x, other, before, 0);
         c.due("a read that changed was at the write", ALWAYS, () -> x.same(0, 1));
         c.due("and what it had was not what was written", NEVER, () -> x.same(before, 3));
         c.due("apart(false)", 2, () -> x.apart(false));
@@ -109,7 +101,7 @@ public final class AnswersTest {
         c.due("the last write counts", ALWAYS, () -> x.same(twice, once));
         int oneWay = x.store(x.store(6, 0, 3), 1, 4);
         int otherWay = x.store(x.store(6, 1, 4), 0, 3);
-        claim(x, oneWay, otherWay, 0);
+        Make.claim(x, oneWay, otherWay, 0);
         c.due("writes whose order counts are at one index", ALWAYS, () -> x.same(0, 1));
         c.due("and of different elements", NEVER, () -> x.same(3, 4));
     }
@@ -117,16 +109,16 @@ public final class AnswersTest {
     private static void arraysCanDifferElsewhere(Checks c) {
         ArrayClaims x = new ArrayClaims();
         for (int i = 0; i < 3; i++) {
-            claim(x, x.select(5, i), x.select(6, i), 1);
+            Make.claim(x, x.select(5, i), x.select(6, i), 1);
         }
-        claim(x, 5, 6, 0);
+        Make.claim(x, 5, 6, 0);
         c.due("the same at all names, yet different", true, x::can);
         int left = x.store(5, 0, 3);
         int right = x.store(6, 0, 3);
         c.due("a write does not mend what is elsewhere", NEVER, () -> x.same(left, right));
         x.keep(3);
         c.due("without that claim", MAYBE, () -> x.same(5, 6));
-        claim(x, left, right, 1);
+        Make.claim(x, left, right, 1);
         c.due("the same after a write and at its index", ALWAYS, () -> x.same(5, 6));
     }
 
@@ -134,36 +126,19 @@ public final class AnswersTest {
         ArrayClaims x = new ArrayClaims();
         int[] reads = {3, 4, x.select(5, 0), x.select(5, 1), x.select(5, 2), x.select(6, 0), x.select(6, 1)};
         for (int k = 0; k + 1 < reads.length; k++) {
-            claim(x, reads[k], reads[k + 1], 0);
+            Make.claim(x, reads[k], reads[k + 1], 0);
         }
-        claim(x, 0, 1, 0);
-        claim(x, 5, 6, 1, 3, reads[6], 0);
+        Make.claim(x, 0, 1, 0);
+        Make.claim(x, 5, 6, 1, 3, reads[6], 0);
         c.due("many different elements", true, x::can);
         c.due("reads of one array with different elements", NEVER, () -> x.same(1, 2));
-    }
-
-    /** Ten pairs of five elements: seven are claimed to be different, and the draft denies it of the other three. */
-    private static void fiveElementsCanAllBeDifferent(Checks c) {
-        ArrayClaims x = new ArrayClaims();
-        int[] five = {3, 4, x.select(5, 0), x.select(5, 1), x.select(5, 2)};
-        for (int k = 0; k < 5; k++) {
-            for (int m = 0; m < k; m++) {
-                x.literal(five[k], five[m], x.claims() == 7);
-                if (x.claims() < 7) {
-                    x.claim();
-                }
-            }
-        }
-        c.due("seven claims", 7, x::claims);
-        c.due("three literals in the draft", 3, x::draft);
-        c.due("that two of the five are the same does not follow", false, x::follows);
     }
 
     private static void whatFollows(Checks c) {
         ArrayClaims x = new ArrayClaims();
         int zero = x.select(5, 0);
         int one = x.select(5, 1);
-        claim(x, 0, 1, 1, 3, 4, 1);
+        Make.claim(x, 0, 1, 1, 3, 4, 1);
         x.literal(zero, one, true);
         c.due("one literal does not follow", false, x::follows);
         x.literal(3, 4, true);
@@ -194,18 +169,18 @@ public final class AnswersTest {
 
     private static void howManyIndices(Checks c) {
         ArrayClaims x = new ArrayClaims();
-        claim(x, 0, 1, 0);
+        Make.claim(x, 0, 1, 0);
         c.due("0 is not 1: apart(true)", 2, () -> x.apart(true));
         c.due("0 is not 1: apart(false)", 3, () -> x.apart(false));
-        claim(x, 0, 2, 0);
-        claim(x, 1, 2, 0);
+        Make.claim(x, 0, 2, 0);
+        Make.claim(x, 1, 2, 0);
         c.due("all different: apart(true)", 3, () -> x.apart(true));
         c.due("all different: apart(false)", 3, () -> x.apart(false));
         x.keep(0);
-        claim(x, 1, 2, 1);
+        Make.claim(x, 1, 2, 1);
         c.due("1 is 2: apart(true)", 1, () -> x.apart(true));
         c.due("1 is 2: apart(false)", 2, () -> x.apart(false));
-        claim(x, 0, 2, 1);
+        Make.claim(x, 0, 2, 1);
         c.due("all the same: apart(true)", 1, () -> x.apart(true));
         c.due("all the same: apart(false)", 1, () -> x.apart(false));
     }
@@ -220,7 +195,6 @@ public final class AnswersTest {
         arraysAreKnownByTheirElements(c);
         arraysCanDifferElsewhere(c);
         elementsAreManyEnough(c);
-        fiveElementsCanAllBeDifferent(c);
         whatFollows(c);
         theDraftIsNoClaim(c);
         howManyIndices(c);

@@ -5,47 +5,39 @@ import java.util.function.IntSupplier;
 final class Checks {
     private int wrong = 0;
     private int seen = 0;
+    private String sentence = "";
+
+    /** The document's sentence that the next answers are looked at for; it is printed with each wrong one. */
+    void sentence(String words) {
+        sentence = words + ": ";
+    }
 
     void due(String call, int want, IntSupplier got) {
-        seen++;
-        String answer;
-        try {
-            int number = got.getAsInt();
-            if (number == want) {
-                return;
-            }
-            answer = String.valueOf(number);
-        } catch (RuntimeException e) {
-            answer = e.getClass().getName();
-        }
-        tell(call, answer, String.valueOf(want));
+        dueAnswer(call, Answer.of(want), Answer.to(got));
     }
 
     void due(String call, boolean want, BooleanSupplier got) {
-        due(call, want ? 1 : 0, () -> got.getAsBoolean() ? 1 : 0);
+        dueAnswer(call, Answer.of(want), Answer.to(got));
     }
 
-    void dueThrow(String call, Class<? extends RuntimeException> want, Runnable run) {
+    void dueThrow(String call, String want, IntSupplier got) {
+        dueAnswer(call, want, Answer.to(got));
+    }
+
+    void dueThrow(String call, String want, BooleanSupplier got) {
+        dueAnswer(call, want, Answer.to(got));
+    }
+
+    void dueAnswer(String call, String want, String got) {
         seen++;
-        String answer = "nothing";
-        try {
-            run.run();
-        } catch (RuntimeException e) {
-            if (e.getClass() == want) {
-                return;
-            }
-            answer = e.getClass().getName();
+        if (!got.equals(want)) {
+            wrong++;
+            System.out.println(sentence + call + ": answered " + got + ", due is " + want);
         }
-        tell(call, "throwing " + answer, "throwing " + want.getName());
     }
 
     void dueTrue(String what, boolean holds) {
-        due(what, true, () -> holds);
-    }
-
-    private void tell(String call, String answer, String want) {
-        wrong++;
-        System.out.println(call + ": answered " + answer + ", due is " + want);
+        dueAnswer(what, Answer.of(true), Answer.of(holds));
     }
 
     void addAll(Checks other) {

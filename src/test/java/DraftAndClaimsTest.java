@@ -1,9 +1,9 @@
 /** Promises 6 to 11: literal, draft, clear, claim, keep, claims. */
 public final class DraftAndClaimsTest {
-    private static final Class<IndexOutOfBoundsException> OUT = IndexOutOfBoundsException.class;
-    private static final Class<IllegalArgumentException> ARGUMENT = IllegalArgumentException.class;
-    private static final Class<IllegalStateException> STATE = IllegalStateException.class;
-    private static final Class<UnsupportedOperationException> FULL = UnsupportedOperationException.class;
+    private static final String OUT = Answer.OUT;
+    private static final String ARGUMENT = Answer.ARGUMENT;
+    private static final String STATE = Answer.STATE;
+    private static final String FULL = Answer.FULL;
 
     private static void theDraftTakesThree(Checks c) {
         ArrayClaims x = new ArrayClaims();
@@ -67,17 +67,8 @@ public final class DraftAndClaimsTest {
         c.due("claims()", 2, x::claims);
     }
 
-    private static ArrayClaims fullOfClaims() {
-        ArrayClaims x = new ArrayClaims();
-        for (int k = 0; k < 8; k++) {
-            x.literal(0, 1, true);
-            x.claim();
-        }
-        return x;
-    }
-
     private static void thereAreEightClaimsAtMost(Checks c) {
-        ArrayClaims x = fullOfClaims();
+        ArrayClaims x = Make.withClaims(8);
         c.due("full: claims()", 8, x::claims);
         c.dueThrow("full: claim() without a draft", STATE, x::claim);
         x.literal(0, 1, false);
