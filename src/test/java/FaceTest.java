@@ -80,6 +80,11 @@ public final class FaceTest {
         checks.dueTrue("one public constructor without arguments",
                 made.length == 1 && Modifier.isPublic(made[0].getModifiers()) && made[0].getParameterCount() == 0);
         int modifiers = ArrayClaims.class.getModifiers();
+        for (Class<?> inside : ArrayClaims.class.getDeclaredClasses()) {
+            int hidden = inside.getModifiers();
+            checks.dueTrue("a class inside is static and not of the face: " + inside.getSimpleName(),
+                    Modifier.isStatic(hidden) && !Modifier.isPublic(hidden) && !Modifier.isProtected(hidden));
+        }
         checks.dueTrue("a public final class", Modifier.isPublic(modifiers) && Modifier.isFinal(modifiers));
         checks.end();
     }
