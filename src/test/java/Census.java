@@ -1,19 +1,20 @@
 /**
  * Goes through all readings of a state one by one, with numbers for the indices and elements, and keeps what
- * it saw. It shares no thought with the program but that three named indices and one elsewhere are enough.
+ * it saw. The program knows an array by one place beside the named indices; here there are two, or else there
+ * is one at which any element can be, so that a fault in that thought is seen.
  */
 final class Census {
-    private static final int ELSEWHERE = 3;
-    private static final int CELLS = 4;
+    private static final int NAMED = 3;
 
     private final int[][] terms;
     private final int[][][] claims;
     private final int[][] draft;
     private final boolean elsewhereInFull;
+    private final int places;
 
-    private final int[] index = new int[3];
+    private final int[] index = new int[NAMED];
     private final int[][] value;
-    private final int[] cell = new int[10];
+    private final int[] cell;
 
     final boolean[] masksSeen;
     final boolean[][] sameSeen;
@@ -24,14 +25,17 @@ final class Census {
 
     /**
      * A term is {sort, array, index, element}, with -1 where it has none; a literal is {t, u, 1 or 0}. In full,
-     * elements elsewhere are any elements; else they are none of the others, which is thirteen times less.
+     * the elements at one place elsewhere are any elements; else there are two such places, and the elements
+     * there are none of the others, which is much less to go through.
      */
     Census(int[][] terms, int[][][] claims, int[][] draft, boolean elsewhereInFull) {
         this.terms = terms;
         this.claims = claims;
         this.draft = draft;
         this.elsewhereInFull = elsewhereInFull;
-        value = new int[terms.length][CELLS];
+        places = NAMED + (elsewhereInFull ? 1 : 2);
+        cell = new int[2 + 2 * places];
+        value = new int[terms.length][places];
         masksSeen = new boolean[1 << claims.length];
         sameSeen = new boolean[terms.length][terms.length];
         differentSeen = new boolean[terms.length][terms.length];
@@ -44,19 +48,19 @@ final class Census {
         }
     }
 
-    /** Cells 0 and 1 are the element names, 2 to 5 the first array, 6 to 9 the second. */
+    /** Cells 0 and 1 are the element names; behind them is the first array's row of places, then the second's. */
     private void fillCell(int at, int used) {
         if (at == cell.length) {
             look();
             return;
         }
-        int place = at < 2 ? -1 : (at - 2) % CELLS;
-        if (place == ELSEWHERE && !elsewhereInFull) {
-            for (int element = 100; element <= (at < 6 ? 100 : 101); element++) {
+        int place = at < 2 ? -1 : (at - 2) % places;
+        if (place >= NAMED && !elsewhereInFull) {
+            for (int element = 100; element <= (at < 2 + places ? 100 : 101); element++) {
                 cell[at] = element;
                 fillCell(at + 1, used);
             }
-        } else if (place >= 0 && place < ELSEWHERE && !isIndex(place)) {
+        } else if (place >= 0 && place < NAMED && !isIndex(place)) {
             cell[at] = -1;
             fillCell(at + 1, used);
         } else {
@@ -106,17 +110,17 @@ final class Census {
         } else if (t < 5) {
             v[0] = cell[t - 3];
         } else if (t < 7) {
-            System.arraycopy(cell, 2 + (t - 5) * CELLS, v, 0, CELLS);
+            System.arraycopy(cell, 2 + (t - 5) * places, v, 0, places);
         } else if (terms[t][0] == 1) {
             v[0] = value[terms[t][1]][index[terms[t][2]]];
         } else {
-            System.arraycopy(value[terms[t][1]], 0, v, 0, CELLS);
+            System.arraycopy(value[terms[t][1]], 0, v, 0, places);
             v[index[terms[t][2]]] = value[terms[t][3]][0];
         }
     }
 
     private boolean areSame(int t, int u) {
-        for (int k = 0; k < (terms[t][0] == 2 ? CELLS : 1); k++) {
+        for (int k = 0; k < (terms[t][0] == 2 ? places : 1); k++) {
             if (value[t][k] != value[u][k]) {
                 return false;
             }

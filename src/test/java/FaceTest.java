@@ -72,20 +72,40 @@ public final class FaceTest {
         checks.due("MAYBE", 2, () -> ArrayClaims.MAYBE);
     }
 
-    public static void main(String[] args) {
-        Checks checks = new Checks();
-        methodsAreTheDocuments(checks);
-        constantsAreTheDocuments(checks);
+    private static void theClassAndItsConstructor(Checks checks) {
+        int modifiers = ArrayClaims.class.getModifiers();
+        checks.dueTrue("a public final class", Modifier.isPublic(modifiers) && Modifier.isFinal(modifiers));
         Constructor<?>[] made = ArrayClaims.class.getDeclaredConstructors();
         checks.dueTrue("one public constructor without arguments",
                 made.length == 1 && Modifier.isPublic(made[0].getModifiers()) && made[0].getParameterCount() == 0);
-        int modifiers = ArrayClaims.class.getModifiers();
+    }
+
+    private static void classesInsideAreNoPartOfIt(Checks checks) {
         for (Class<?> inside : ArrayClaims.class.getDeclaredClasses()) {
             int hidden = inside.getModifiers();
             checks.dueTrue("a class inside is static and not of the face: " + inside.getSimpleName(),
                     Modifier.isStatic(hidden) && !Modifier.isPublic(hidden) && !Modifier.isProtected(hidden));
         }
-        checks.dueTrue("a public final class", Modifier.isPublic(modifiers) && Modifier.isFinal(modifiers));
+    }
+
+    /** LANGUAGE.md, rule 1: "No private method bears the name of a public one." */
+    private static void namesOfTheFaceAreItsOwn(Checks checks) {
+        Set<String> open = new TreeSet<>();
+        Set<String> hidden = new TreeSet<>();
+        for (Method m : ArrayClaims.class.getDeclaredMethods()) {
+            (Modifier.isPublic(m.getModifiers()) ? open : hidden).add(m.getName());
+        }
+        hidden.retainAll(open);
+        checks.dueTrue("private methods with a public one's name: " + hidden, hidden.isEmpty());
+    }
+
+    public static void main(String[] args) {
+        Checks checks = new Checks();
+        theClassAndItsConstructor(checks);
+        methodsAreTheDocuments(checks);
+        constantsAreTheDocuments(checks);
+        classesInsideAreNoPartOfIt(checks);
+        namesOfTheFaceAreItsOwn(checks);
         checks.end();
     }
 }

@@ -2,6 +2,9 @@
 public final class ReadingEdgesTest {
     private static final int NEVER = ArrayClaims.NEVER, ALWAYS = ArrayClaims.ALWAYS, MAYBE = ArrayClaims.MAYBE;
 
+    /** Each way in which three names can be the same: for each name the lowest name of its index. */
+    private static final int[][] WAYS = {{0, 0, 0}, {0, 0, 2}, {0, 1, 0}, {0, 1, 1}, {0, 1, 2}};
+
     private final Checks c = new Checks();
 
     private static int[] selects(ArrayClaims x, int array) {
@@ -159,6 +162,85 @@ public final class ReadingEdgesTest {
         c.due("what they wrote", ALWAYS, () -> x.same(last, 4));
     }
 
+    private void eachWayInWhichIndicesAreTheSame() {
+        c.sentence("Terms: A READING says which indices .. the names .. are (each way in which they are the same)");
+        for (int[] way : WAYS) {
+            ArrayClaims x = new ArrayClaims();
+            for (int i = 0; i < 3; i++) {
+                Make.claim(x, i, (i + 1) % 3, way[i] == way[(i + 1) % 3] ? 1 : 0);
+            }
+            for (int i = 0; i < 3; i++) {
+                for (int j = 0; j < 3; j++) {
+                    aReadBehindAWrite(x, i, j, way[i] == way[j]);
+                }
+            }
+        }
+    }
+
+    private void aReadBehindAWrite(ArrayClaims x, int i, int j, boolean oneIndex) {
+        String told = "names " + i + " and " + j + (oneIndex ? " of one index: " : " of two indices: ");
+        int before = x.select(5, j);
+        int written = x.store(5, i, 3);
+        int after = x.select(written, j);
+        int there = x.select(5, i);
+        int other = x.store(5, j, 3);
+        c.due(told + "the read is what was written", oneIndex ? ALWAYS : MAYBE, () -> x.same(after, 3));
+        c.due(told + "the read is what was there", oneIndex ? MAYBE : ALWAYS, () -> x.same(after, before));
+        c.due(told + "the read is another element", MAYBE, () -> x.same(after, 4));
+        c.due(told + "the reads at both", oneIndex ? ALWAYS : MAYBE, () -> x.same(there, before));
+        c.due(told + "the writes at both", oneIndex ? ALWAYS : MAYBE, () -> x.same(written, other));
+        c.due(told + "the two names", oneIndex ? ALWAYS : NEVER, () -> x.same(i, j));
+    }
+
+    private void eachTermIsSomething() {
+        c.sentence("Terms: In a reading each term is something (three terms of one sort)");
+        ArrayClaims x = new ArrayClaims();
+        int read = x.select(5, 0);
+        int otherRead = x.select(6, 1);
+        int written = x.store(5, 0, 3);
+        int otherWritten = x.store(6, 1, 4);
+        int[][] threes = {{0, 1, 2}, {3, 4, read}, {read, 3, otherRead}, {5, 6, written}, {written, 5, otherWritten}};
+        for (int[] t : threes) {
+            for (int turn = 0; turn < 3; turn++) {
+                threeTerms(x, t[turn], t[(turn + 1) % 3], t[(turn + 2) % 3]);
+            }
+        }
+    }
+
+    private void threeTerms(ArrayClaims x, int t, int u, int v) {
+        String told = "terms " + t + ", " + u + ", " + v + ": ";
+        Make.claim(x, t, u, 1);
+        Make.claim(x, u, v, 1);
+        c.due(told + "both are the second", ALWAYS, () -> x.same(t, v));
+        Make.claim(x, v, t, 0);
+        c.due(told + "both are the second, and are not the same", false, x::can);
+        x.keep(1);
+        Make.claim(x, u, v, 0);
+        c.due(told + "one is the second", NEVER, () -> x.same(t, v));
+        x.keep(0);
+        Make.claim(x, t, u, 0);
+        Make.claim(x, u, v, 0);
+        c.due(told + "neither is the second", MAYBE, () -> x.same(t, v));
+        x.keep(0);
+    }
+
+    /** The first claim says nothing, but whoever tries "4 is 3" for it first must take back what came of that. */
+    private void someReadingIsEnough() {
+        c.sentence("Terms: CAN HOLD if there is a reading (not the one that is tried first)");
+        for (int same = 0; same < 2; same++) {
+            ArrayClaims x = new ArrayClaims();
+            int read = x.select(5, 0);
+            Make.claim(x, 3, 4, 1, 3, 4, 0);
+            Make.claim(x, read, 3, same);
+            Make.claim(x, read, 4, 1 - same);
+            c.due("can(), the read being one of 3 and 4 alone", true, x::can);
+            c.due("first()", ArrayClaims.NONE, x::first);
+            c.due("3 is never 4 then", NEVER, () -> x.same(3, 4));
+            c.due("the read is 3", same == 1 ? ALWAYS : NEVER, () -> x.same(read, 3));
+            c.due("the read is 4", same == 1 ? NEVER : ALWAYS, () -> x.same(read, 4));
+        }
+    }
+
     private void oneAtLeastOfItsLiterals() {
         c.sentence("Terms: a claim HOLDS when one at least of its literals is right");
         for (int right = 0; right < 8; right++) {
@@ -195,6 +277,9 @@ public final class ReadingEdgesTest {
         theElementThatWasWritten();
         whatWasThereAtAllOtherIndices();
         aLongRowOfStores();
+        eachWayInWhichIndicesAreTheSame();
+        eachTermIsSomething();
+        someReadingIsEnough();
         oneAtLeastOfItsLiterals();
         eachOfThemHolds();
         return c;
